@@ -309,7 +309,7 @@ public final class TurnThreads {
         }
 
         boolean waits() {
-            return state == WAITS_TO_PUT || state == WAITS_TO_TAKE || state == WAITS_TO_READ;
+            return state >= WAITS_TO_PUT && state <= WAITS_TO_READ;
         }
 
         boolean waitsAt(int someBox, int waiting) {
@@ -317,11 +317,11 @@ public final class TurnThreads {
         }
 
         boolean isAway() {
-            return waits() || state == DELAYED;
+            return state >= WAITS_TO_PUT && state <= DELAYED;
         }
 
         boolean isDone() {
-            return state == ENDED || state == ENDED_BY_EXCEPTION || state == KILLED;
+            return state >= ENDED;
         }
 
         void addHandler(int act) {
@@ -559,25 +559,11 @@ public final class TurnThreads {
 
         /** Answers whether it was a TURN: it is none if no thread came to run. */
         boolean takeTurn() {
-            if (over) {
-                return false;
-            }
-            wakeDelayed();
-            if (line.size() == 0) {
-                endIdleness();
-            }
-            Fiber me = line.removeFirst();
+            Fiber me = over ? null : nextToRun();
             if (me == null) {
                 return false;
             }
             me.turns++;
-            doActs(me);
-            clock++;
-            turns++;
-            return true;
-        }
-
-        private void doActs(Fiber me) {
             for (int done = 0; done < quantum && me.state == READY; done++) {
                 int kind = programs.kindAt(me.home, me.next);
                 doAct(me, kind, programs.operandAt(me.home, me.next));
@@ -589,6 +575,17 @@ public final class TurnThreads {
             if (me.state == READY) {
                 line.add(me);
             }
+            clock++;
+            turns++;
+            return true;
+        }
+
+        private Fiber nextToRun() {
+            wakeDelayed();
+            if (line.size() == 0) {
+                endIdleness();
+            }
+            return line.removeFirst();
         }
 
         private void wakeDelayed() {
@@ -737,7 +734,7 @@ public final class TurnThreads {
                     me.register = me.number;
                     break;
                 default:
-                    // YIELD: the turn is ended by doActs.
+                    // YIELD: takeTurn ends the turn.
                     break;
             }
         }
@@ -807,7 +804,8 @@ public final class TurnThreads {
                 fiber.endedBy = exception;
                 line.remove(fiber);
             } else if (wasAway) {
-                makeReady(fiber);
+                fiber.state = READY;
+                line.add(fiber);
             }
         }
 

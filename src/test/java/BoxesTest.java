@@ -11,6 +11,7 @@ public final class BoxesTest {
         readLeavesTheValue();
         boxesAreApart();
         killedOnesWaitNoMore();
+        allTwentyFourRead();
         Check.end();
     }
 
@@ -197,5 +198,20 @@ public final class BoxesTest {
         for (int t = 1; t < 4; t++) {
             Check.due("killed", x.thread(t, 0), Check.KILLED);
         }
+    }
+
+    private static void allTwentyFourRead() {
+        TurnThreads x = Check.with(Check.acts(Check.FORK, 0, Check.READ, 2));
+        x.begin(0, 10, 0);
+        x.step(24);
+        Check.due("all wait to read", x.box(2, 4), 24);
+        x.fill(2, 6);
+        Check.due("none waits", x.box(2, 4), 0);
+        Check.due("all are in the queue", x.told(4), 24);
+        for (int t = 0; t < 24; t++) {
+            Check.due("as they came", x.queued(t), t);
+            Check.due("each has it", x.thread(t, 3), 6);
+        }
+        Check.due("it stays", x.box(2, 0), 6);
     }
 }

@@ -11,6 +11,7 @@ public final class ProgramsTest {
         twentyActs();
         beginRefuses();
         beginTakesTheirPlace();
+        beginInTheMidst();
         programsGrowDuringARun();
         Check.end();
     }
@@ -162,6 +163,29 @@ public final class ProgramsTest {
         Check.dueThrow("begun again: share(0)", x, 0);
         Check.due("another program", x.begin(1, 1, 0), 1);
         Check.due("another program: thread(0, 1)", x.thread(0, 1), 1);
+    }
+
+    /** Handlers, masks, pending ones, queue and values of the run before are not those of the new one. */
+    private static void beginInTheMidst() {
+        TurnThreads x = Check.with(
+                Check.acts(Check.CATCH, 1, Check.CATCH, 2, Check.MASK, 1, Check.FORK, 1, Check.FORK, 1,
+                        Check.YIELD, 0, Check.JUMP, 5),
+                Check.acts(Check.SET, 0, Check.THROW, 3, Check.THROW, 4, Check.YIELD, 0, Check.JUMP, 3));
+        x.begin(0, 10, 0);
+        for (int b = 0; b < 8; b++) {
+            x.fill(b, b);
+        }
+        x.step(2);
+        Check.dueThread("in the midst", x, 0, Check.READY, 0, 6, 2, 2, 1, 2, 0, 1, -3);
+        Check.dueQueue("in the midst", x, 2, 0, 1);
+        Check.due("begin(1, 1, 9)", x.begin(1, 1, 9), 1);
+        Check.dueThread("anew", x, 0, Check.READY, 1, 0, 9, 0, 0, 0, 0, 0, -3);
+        Check.dueQueue("anew", x, 0);
+        for (int b = 0; b < 8; b++) {
+            Check.due("anew: box(" + b + ", 1)", x.box(b, 1), 0);
+        }
+        Check.due("no exception waited for it", x.step(1), 1);
+        Check.dueThread("its first act", x, 0, Check.READY, 1, 1, 0, 0, 0, 0, 0, 1, -3);
     }
 
     private static void programsGrowDuringARun() {

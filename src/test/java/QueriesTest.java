@@ -76,6 +76,8 @@ public final class QueriesTest {
         int[] wrong = {-1, 2, Integer.MIN_VALUE, Integer.MAX_VALUE};
         for (int what : wrong) {
             Check.due("trace(0, " + what + ")", x.trace(0, what), -2);
+            // The document names no call of trace that does not look at what.
+            Check.due("trace(-1, " + what + ")", x.trace(-1, what), -2);
         }
         Check.due("one row: trace(-1, 1)", x.trace(-1, 1), 1);
         Check.dueTrace("one row", x, 0, 3);

@@ -9,6 +9,7 @@ public final class TurnsTest {
         jumps();
         arithmetic();
         delays();
+        alone();
         delayedByWhenThenNumbers();
         clockLeaps();
         delayedComeBeforeTheTurn();
@@ -143,6 +144,16 @@ public final class TurnsTest {
         Check.due("the turn at clock 4 woke it", x.thread(0, 0), Check.READY);
         x.step(1);
         Check.dueThread("DELAY 100 at clock 5", x, 0, Check.DELAYED, 0, 5, 1, 0, 0, 0, 0, 3, 105);
+    }
+
+    private static void alone() {
+        TurnThreads x = Check.with(Check.acts(Check.DELAY, 100, Check.LOG, 0, Check.DELAY, 0, Check.TAKE, 3));
+        x.begin(0, 10, 7);
+        Check.due("three turns", x.step(3), 3);
+        Check.due("clock", x.told(1), 102);
+        Check.due("it waits", x.box(3, 3), 1);
+        Check.due("fill(3, 5)", x.fill(3, 5), 1);
+        Check.dueThread("it was served", x, 0, Check.READY, 0, 4, 5, 0, 0, 0, 0, 3, -3);
     }
 
     private static void delayedByWhenThenNumbers() {
