@@ -11,7 +11,7 @@ public final class AnyCallTest {
         return random.nextInt(5) == 0 ? EDGES[random.nextInt(EDGES.length)] : random.nextInt(21);
     }
 
-    private static void share(TurnThreads x, int t) {
+    private static void share(Counted x, int t) {
         boolean due = x.told(2) == 0 && x.thread(t, 0) != -1;
         if (due) {
             Check.dueThrow("share(" + t + ")", x, t);
@@ -20,7 +20,7 @@ public final class AnyCallTest {
         }
     }
 
-    private static void call(Random random, TurnThreads x) {
+    private static void call(Random random, Counted x) {
         int a = any(random);
         int b = any(random);
         switch (random.nextInt(13)) {
@@ -63,8 +63,9 @@ public final class AnyCallTest {
     public static void main(String[] args) {
         for (int seed = 0; seed < 4000; seed++) {
             Random random = new Random(seed);
-            TurnThreads x = new TurnThreads();
-            for (int i = 0; i < 512; i++) {
+            Counted x = new Counted();
+            // One of these calls is up to four of the object.
+            while (x.calls() <= Counted.CALLS - 4) {
                 call(random, x);
             }
         }

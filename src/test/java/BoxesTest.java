@@ -16,7 +16,7 @@ public final class BoxesTest {
     }
 
     private static void fillRefuses() {
-        TurnThreads x = Check.with(Check.acts(Check.YIELD, 0));
+        Counted x = Check.with(Check.acts(Check.YIELD, 0));
         int[] none = {-1, 8, Integer.MIN_VALUE, Integer.MAX_VALUE};
         for (int b : none) {
             Check.due("no run: fill(" + b + ", 1)", x.fill(b, 1), -1);
@@ -37,7 +37,7 @@ public final class BoxesTest {
     }
 
     private static void fillAnEmptyBox() {
-        TurnThreads x = Check.with(Check.acts(Check.YIELD, 0));
+        Counted x = Check.with(Check.acts(Check.YIELD, 0));
         x.begin(0, 1, 0);
         int[] values = {0, -1, -3, Integer.MIN_VALUE, Integer.MAX_VALUE, 5, 6, 7};
         for (int b = 0; b < 8; b++) {
@@ -54,7 +54,7 @@ public final class BoxesTest {
     }
 
     private static void boxRefuses() {
-        TurnThreads x = Check.with(Check.acts(Check.YIELD, 0));
+        Counted x = Check.with(Check.acts(Check.YIELD, 0));
         Check.due("no run: box(0, 5)", x.box(0, 5), -1);
         Check.due("no run: box(0, 0)", x.box(0, 0), -1);
         x.begin(0, 1, 0);
@@ -70,8 +70,8 @@ public final class BoxesTest {
     }
 
     /** Thread 0 forks five: take, read, take, read, take, all of box 4. */
-    private static TurnThreads takersAndReaders() {
-        TurnThreads x = Check.with(
+    private static Counted takersAndReaders() {
+        Counted x = Check.with(
                 Check.acts(Check.FORK, 1, Check.FORK, 2, Check.FORK, 1, Check.FORK, 2, Check.FORK, 1,
                         Check.YIELD, 0, Check.SET, 70, Check.PUT, 4, Check.PUT, 4, Check.YIELD, 0, Check.JUMP, 9),
                 Check.acts(Check.TAKE, 4, Check.LOG, 0, Check.TAKE, 7),
@@ -82,7 +82,7 @@ public final class BoxesTest {
     }
 
     private static void allReadersThenOneTaker() {
-        TurnThreads x = takersAndReaders();
+        Counted x = takersAndReaders();
         Check.dueQueue("all wait", x, 0);
         Check.due("three wait to take", x.box(4, 3), 3);
         Check.due("two wait to read", x.box(4, 4), 2);
@@ -100,7 +100,7 @@ public final class BoxesTest {
     }
 
     private static void takersInTheirOrder() {
-        TurnThreads x = takersAndReaders();
+        Counted x = takersAndReaders();
         x.step(1);
         // SET 70, PUT: readers 2, 4 and taker 1; PUT: taker 3; YIELD. Taker 5 is left.
         Check.dueQueue("two puts", x, 2, 4, 1, 3, 0);
@@ -114,7 +114,7 @@ public final class BoxesTest {
     }
 
     private static void puttersInTheirOrder() {
-        TurnThreads x = Check.with(
+        Counted x = Check.with(
                 Check.acts(Check.FORK, 1, Check.FORK, 1, Check.FORK, 1, Check.YIELD, 0,
                         Check.TAKE, 6, Check.LOG, 0, Check.TAKE, 6, Check.LOG, 0, Check.YIELD, 0, Check.JUMP, 8),
                 Check.acts(Check.MINE, 0, Check.ADD, 40, Check.PUT, 6, Check.LOG, 0, Check.TAKE, 7));
@@ -136,7 +136,7 @@ public final class BoxesTest {
 
     /** Thread 2 comes to the box before thread 1. */
     private static void orderIsThatOfComing() {
-        TurnThreads x = Check.with(
+        Counted x = Check.with(
                 Check.acts(Check.FORK, 1, Check.FORK, 2, Check.YIELD, 0, Check.YIELD, 0, Check.YIELD, 0),
                 Check.acts(Check.YIELD, 0, Check.TAKE, 0),
                 Check.acts(Check.TAKE, 0));
@@ -157,7 +157,7 @@ public final class BoxesTest {
     }
 
     private static void readLeavesTheValue() {
-        TurnThreads x = Check.with(Check.acts(Check.READ, 1, Check.LOG, 0, Check.SET, 0, Check.READ, 1, Check.LOG, 0,
+        Counted x = Check.with(Check.acts(Check.READ, 1, Check.LOG, 0, Check.SET, 0, Check.READ, 1, Check.LOG, 0,
                 Check.SET, 0, Check.TAKE, 1, Check.LOG, 0, Check.READ, 1));
         x.begin(0, 10, 0);
         x.fill(1, -9);
@@ -168,7 +168,7 @@ public final class BoxesTest {
     }
 
     private static void boxesAreApart() {
-        TurnThreads x = Check.with(
+        Counted x = Check.with(
                 Check.acts(Check.FORK, 1, Check.FORK, 2, Check.YIELD, 0, Check.YIELD, 0),
                 Check.acts(Check.TAKE, 0), Check.acts(Check.TAKE, 7));
         x.begin(0, 10, 0);
@@ -181,7 +181,7 @@ public final class BoxesTest {
     }
 
     private static void killedOnesWaitNoMore() {
-        TurnThreads x = Check.with(
+        Counted x = Check.with(
                 Check.acts(Check.FORK, 1, Check.FORK, 2, Check.FORK, 3, Check.YIELD, 0),
                 Check.acts(Check.PUT, 0), Check.acts(Check.TAKE, 1), Check.acts(Check.READ, 1));
         x.begin(0, 10, 0);
@@ -201,7 +201,7 @@ public final class BoxesTest {
     }
 
     private static void allTwentyFourRead() {
-        TurnThreads x = Check.with(Check.acts(Check.FORK, 0, Check.READ, 2));
+        Counted x = Check.with(Check.acts(Check.FORK, 0, Check.READ, 2));
         x.begin(0, 10, 0);
         x.step(24);
         Check.due("all wait to read", x.box(2, 4), 24);

@@ -32,6 +32,10 @@ final class Check {
     private Check() {
     }
 
+    static int wrong() {
+        return wrong;
+    }
+
     static void due(String what, long got, long want) {
         if (got != want) {
             wrong++;
@@ -40,13 +44,13 @@ final class Check {
     }
 
     /** All ten answers of thread(t, 0 .. 9) in one. */
-    static void dueThread(String when, TurnThreads x, int t, int... want) {
+    static void dueThread(String when, Counted x, int t, int... want) {
         for (int what = 0; what < want.length; what++) {
             due(when + ": thread(" + t + ", " + what + ")", x.thread(t, what), want[what]);
         }
     }
 
-    static void dueQueue(String when, TurnThreads x, int... want) {
+    static void dueQueue(String when, Counted x, int... want) {
         due(when + ": told(4)", x.told(4), want.length);
         for (int i = 0; i < want.length; i++) {
             due(when + ": queued(" + i + ")", x.queued(i), want[i]);
@@ -55,7 +59,7 @@ final class Check {
     }
 
     /** The rows as number, register, number, register .. */
-    static void dueTrace(String when, TurnThreads x, int... want) {
+    static void dueTrace(String when, Counted x, int... want) {
         due(when + ": trace(-1, 0)", x.trace(-1, 0), want.length / 2);
         for (int i = 0; i < want.length; i++) {
             due(when + ": trace(" + i / 2 + ", " + i % 2 + ")", x.trace(i / 2, i % 2), want[i]);
@@ -63,7 +67,7 @@ final class Check {
         due(when + ": trace behind the last row", x.trace(want.length / 2, 0), -1);
     }
 
-    static void dueThrow(String what, TurnThreads x, int t) {
+    static void dueThrow(String what, Counted x, int t) {
         try {
             int got = x.share(t);
             wrong++;
@@ -74,15 +78,15 @@ final class Check {
     }
 
     /** An object with these programs, each written as kind, a, kind, a .. */
-    static TurnThreads with(int[]... programs) {
-        TurnThreads x = new TurnThreads();
+    static Counted with(int[]... programs) {
+        Counted x = new Counted();
         for (int[] acts : programs) {
             write(x, acts);
         }
         return x;
     }
 
-    static void write(TurnThreads x, int... acts) {
+    static void write(Counted x, int... acts) {
         if (x.program() < 0) {
             throw new IllegalStateException("no program came");
         }

@@ -24,7 +24,7 @@ public final class ExceptionsTest {
     }
 
     private static void raiseWithHandlers() {
-        TurnThreads x = Check.with(Check.acts(Check.CATCH, 6, Check.CATCH, 4, Check.RAISE, 9, Check.LOG, 0,
+        Counted x = Check.with(Check.acts(Check.CATCH, 6, Check.CATCH, 4, Check.RAISE, 9, Check.LOG, 0,
                 Check.LOG, 0, Check.RAISE, 1, Check.LOG, 0, Check.RAISE, 5));
         x.begin(0, 3, 8);
         x.step(1);
@@ -40,14 +40,14 @@ public final class ExceptionsTest {
     }
 
     private static void raiseWithout() {
-        TurnThreads x = Check.with(Check.acts(Check.CATCH, 0, Check.LEAVE, 0, Check.LEAVE, 0, Check.RAISE, 3));
+        Counted x = Check.with(Check.acts(Check.CATCH, 0, Check.LEAVE, 0, Check.LEAVE, 0, Check.RAISE, 3));
         x.begin(0, 10, 8);
         Check.due("one turn", x.step(500), 1);
         Check.dueThread("ended by 3", x, 0, Check.ENDED_BY_EXCEPTION, 0, -3, 8, 0, 0, 0, 3, 1, -3);
     }
 
     private static void raiseIsNotMasked() {
-        TurnThreads x = Check.with(Check.acts(Check.CATCH, 4, Check.MASK, 1, Check.RAISE, 2, Check.YIELD, 0,
+        Counted x = Check.with(Check.acts(Check.CATCH, 4, Check.MASK, 1, Check.RAISE, 2, Check.YIELD, 0,
                 Check.YIELD, 0));
         x.begin(0, 3, 8);
         x.step(1);
@@ -55,7 +55,7 @@ public final class ExceptionsTest {
     }
 
     private static void handlersAreFourAtMost() {
-        TurnThreads x = Check.with(Check.acts(Check.CATCH, 11, Check.CATCH, 12, Check.CATCH, 13, Check.CATCH, 14,
+        Counted x = Check.with(Check.acts(Check.CATCH, 11, Check.CATCH, 12, Check.CATCH, 13, Check.CATCH, 14,
                 Check.CATCH, 15, Check.YIELD, 0, Check.LEAVE, 0, Check.RAISE, 7));
         x.begin(0, 10, 0);
         x.step(1);
@@ -73,12 +73,12 @@ public final class ExceptionsTest {
     private static void throwToNobody() {
         int[] none = {-1, 2, 24, Integer.MIN_VALUE, Integer.MAX_VALUE};
         for (int number : none) {
-            TurnThreads x = Check.with(Check.acts(Check.THROW, 3, Check.YIELD, 0));
+            Counted x = Check.with(Check.acts(Check.THROW, 3, Check.YIELD, 0));
             x.begin(0, 2, number);
             x.step(1);
             Check.dueThread("nothing comes of it", x, 0, Check.READY, 0, 2, number, 0, 0, 0, 0, 1, -3);
         }
-        TurnThreads x = Check.with(
+        Counted x = Check.with(
                 Check.acts(Check.FORK, 1, Check.FORK, 2, Check.YIELD, 0, Check.SET, 1, Check.THROW, 3,
                         Check.SET, 2, Check.THROW, 3, Check.YIELD, 0),
                 Check.acts(Check.CATCH, 2), Check.acts(Check.RAISE, 6));
@@ -90,7 +90,7 @@ public final class ExceptionsTest {
     }
 
     private static void throwToItself() {
-        TurnThreads x = Check.with(Check.acts(Check.CATCH, 5, Check.MASK, 1, Check.MINE, 0, Check.THROW, 8,
+        Counted x = Check.with(Check.acts(Check.CATCH, 5, Check.MASK, 1, Check.MINE, 0, Check.THROW, 8,
                 Check.YIELD, 0, Check.YIELD, 0));
         x.begin(0, 4, 77);
         x.step(1);
@@ -102,7 +102,7 @@ public final class ExceptionsTest {
     }
 
     private static void throwToReady() {
-        TurnThreads x = Check.with(
+        Counted x = Check.with(
                 Check.acts(Check.FORK, 1, Check.FORK, 1, Check.YIELD, 0, Check.SET, 1, Check.THROW, 4, Check.YIELD, 0),
                 Check.acts(Check.CATCH, 9, Check.YIELD, 0, Check.YIELD, 0));
         x.begin(0, 10, 5);
@@ -116,7 +116,7 @@ public final class ExceptionsTest {
     }
 
     private static void throwToReadyWithoutHandler() {
-        TurnThreads x = Check.with(
+        Counted x = Check.with(
                 Check.acts(Check.FORK, 1, Check.FORK, 1, Check.SET, 1, Check.THROW, 4, Check.YIELD, 0),
                 Check.acts(Check.YIELD, 0));
         x.begin(0, 10, 5);
@@ -127,8 +127,8 @@ public final class ExceptionsTest {
     }
 
     /** Thread 1 waits by an act, with its mask and handlers; thread 0 throws 6 to it. */
-    private static TurnThreads thrownAt(int kind, int a, int masked, int handler) {
-        TurnThreads x = Check.with(
+    private static Counted thrownAt(int kind, int a, int masked, int handler) {
+        Counted x = Check.with(
                 Check.acts(Check.FORK, 1, Check.FORK, 2, Check.YIELD, 0, Check.SET, 1, Check.THROW, 6, Check.YIELD, 0),
                 handler < 0
                         ? Check.acts(Check.MASK, masked, Check.YIELD, 0, kind, a, Check.LOG, 0)
@@ -145,7 +145,7 @@ public final class ExceptionsTest {
         for (int kind : kinds) {
             int box = kind == Check.PUT ? 0 : 1;
             for (int masked = 0; masked < 2; masked++) {
-                TurnThreads x = thrownAt(kind, box, masked, 12);
+                Counted x = thrownAt(kind, box, masked, 12);
                 Check.dueThread("it waits", x, 1, kind + 1, 1, 2, 30, 1, masked, 0, 0, 1, -3);
                 x.step(1);
                 Check.dueThread("it waits no more", x, 1, Check.READY, 1, 12, 6, 0, masked, 0, 0, 1, -3);
@@ -154,7 +154,7 @@ public final class ExceptionsTest {
                 Check.due("the box is as it was", x.box(box, 1), kind == Check.PUT ? 1 : 0);
             }
         }
-        TurnThreads x = Check.with(
+        Counted x = Check.with(
                 Check.acts(Check.FORK, 1, Check.FORK, 1, Check.YIELD, 0, Check.SET, 1, Check.THROW, 6, Check.YIELD, 0),
                 Check.acts(Check.TAKE, 3));
         x.begin(0, 10, 30);
@@ -169,13 +169,13 @@ public final class ExceptionsTest {
 
     private static void throwToDelayed() {
         for (int masked = 0; masked < 2; masked++) {
-            TurnThreads x = thrownAt(Check.DELAY, 40, masked, 12);
+            Counted x = thrownAt(Check.DELAY, 40, masked, 12);
             Check.dueThread("delayed", x, 1, Check.DELAYED, 1, 3, 30, 1, masked, 0, 0, 1, 41);
             x.step(1);
             Check.dueThread("delayed no more", x, 1, Check.READY, 1, 12, 6, 0, masked, 0, 0, 1, -3);
             Check.dueQueue("at the end of the queue", x, 2, 1, 0);
         }
-        TurnThreads x = Check.with(
+        Counted x = Check.with(
                 Check.acts(Check.FORK, 1, Check.YIELD, 0, Check.THROW, 6, Check.YIELD, 0),
                 Check.acts(Check.DELAY, 40));
         x.begin(0, 10, 30);
@@ -185,7 +185,7 @@ public final class ExceptionsTest {
     }
 
     /** Thread 1 masks itself and yields; thread 0 throws 1, 2, .. thrown to it, then its later acts come. */
-    private static TurnThreads pendingRun(int thrown, int... later) {
+    private static Counted pendingRun(int thrown, int... later) {
         int[] zero = new int[4 + 2 * thrown + 4];
         zero[0] = Check.FORK;
         zero[1] = 1;
@@ -197,7 +197,7 @@ public final class ExceptionsTest {
         zero[4 + 2 * thrown] = Check.YIELD;
         zero[6 + 2 * thrown] = Check.JUMP;
         zero[7 + 2 * thrown] = 2 + thrown;
-        TurnThreads x = Check.with(zero, later);
+        Counted x = Check.with(zero, later);
         x.begin(0, 10, 20);
         x.step(3);
         return x;
@@ -205,13 +205,13 @@ public final class ExceptionsTest {
 
     private static void pendingIsFourAtMost() {
         for (int thrown = 0; thrown <= 6; thrown++) {
-            TurnThreads x = pendingRun(thrown, Check.MASK, 1, Check.CATCH, 20, Check.YIELD, 0, Check.YIELD, 0);
+            Counted x = pendingRun(thrown, Check.MASK, 1, Check.CATCH, 20, Check.YIELD, 0, Check.YIELD, 0);
             Check.dueThread("they are pending", x, 1, Check.READY, 1, 3, 20, 1, 1, Math.min(thrown, 4), 0, 1, -3);
         }
     }
 
     private static void unmaskLetsThemCome() {
-        TurnThreads x = pendingRun(6, Check.CATCH, 11, Check.CATCH, 12, Check.CATCH, 13, Check.CATCH, 6,
+        Counted x = pendingRun(6, Check.CATCH, 11, Check.CATCH, 12, Check.CATCH, 13, Check.CATCH, 6,
                 Check.MASK, 1, Check.YIELD, 0, Check.MASK, 0);
         Check.due("four are pending", x.thread(1, 6), 4);
         x.step(1);
@@ -228,7 +228,7 @@ public final class ExceptionsTest {
     }
 
     private static void unmaskEndsTheThread() {
-        TurnThreads x = pendingRun(4, Check.CATCH, 5, Check.MASK, 1, Check.YIELD, 0, Check.MASK, 0);
+        Counted x = pendingRun(4, Check.CATCH, 5, Check.MASK, 1, Check.YIELD, 0, Check.MASK, 0);
         x.step(1);
         Check.dueThread("1 is caught, 2 ends it, 3 and 4 do not come", x, 1,
                 Check.ENDED_BY_EXCEPTION, 1, -3, 1, 0, 0, 2, 2, 2, -3);
@@ -240,7 +240,7 @@ public final class ExceptionsTest {
         int[] kinds = {Check.PUT, Check.TAKE, Check.READ};
         for (int kind : kinds) {
             int box = kind == Check.PUT ? 0 : 1;
-            TurnThreads x = pendingRun(2, Check.CATCH, 6, Check.MASK, 1, Check.YIELD, 0, kind, box,
+            Counted x = pendingRun(2, Check.CATCH, 6, Check.MASK, 1, Check.YIELD, 0, kind, box,
                     Check.LOG, 0, Check.LOG, 0, Check.LOG, 0, Check.YIELD, 0);
             x.fill(0, 50);
             x.step(1);
@@ -256,7 +256,7 @@ public final class ExceptionsTest {
 
     private static void pendingInsteadOfDelay() {
         for (int delay = 0; delay <= 100; delay += 50) {
-            TurnThreads x = pendingRun(1, Check.CATCH, 4, Check.MASK, 1, Check.YIELD, 0, Check.DELAY, delay,
+            Counted x = pendingRun(1, Check.CATCH, 4, Check.MASK, 1, Check.YIELD, 0, Check.DELAY, delay,
                     Check.LOG, 0, Check.DELAY, delay);
             x.step(1);
             Check.dueThread("once instead, then delayed", x, 1, Check.DELAYED, 1, 6, 1, 0, 1, 0, 0, 2, 3 + delay);
@@ -265,7 +265,7 @@ public final class ExceptionsTest {
     }
 
     private static void pendingIsNoMatterIfItNeedNotWait() {
-        TurnThreads x = pendingRun(1, Check.MASK, 1, Check.YIELD, 0, Check.READ, 5, Check.TAKE, 5, Check.PUT, 5,
+        Counted x = pendingRun(1, Check.MASK, 1, Check.YIELD, 0, Check.READ, 5, Check.TAKE, 5, Check.PUT, 5,
                 Check.YIELD, 0);
         x.fill(5, 51);
         x.step(1);
@@ -274,7 +274,7 @@ public final class ExceptionsTest {
     }
 
     private static void allWaitForEver() {
-        TurnThreads x = Check.with(
+        Counted x = Check.with(
                 Check.acts(Check.FORK, 1, Check.FORK, 1, Check.TAKE, 0),
                 Check.acts(Check.CATCH, 0, Check.READ, 1));
         x.begin(0, 10, 5);
@@ -289,7 +289,7 @@ public final class ExceptionsTest {
     }
 
     private static void waitForEverWithHandlers() {
-        TurnThreads x = Check.with(
+        Counted x = Check.with(
                 Check.acts(Check.FORK, 1, Check.FORK, 2, Check.FORK, 1, Check.CATCH, 6, Check.MASK, 1, Check.TAKE, 0,
                         Check.LOG, 0, Check.YIELD, 0),
                 Check.acts(Check.CATCH, 3, Check.FORK, 3, Check.READ, 1, Check.LOG, 0, Check.YIELD, 0),
@@ -313,7 +313,7 @@ public final class ExceptionsTest {
     }
 
     private static void throwToThreadZero() {
-        TurnThreads x = Check.with(
+        Counted x = Check.with(
                 Check.acts(Check.FORK, 1, Check.FORK, 2, Check.YIELD, 0),
                 Check.acts(Check.SET, 0, Check.THROW, 7, Check.LOG, 0),
                 Check.acts(Check.YIELD, 0));

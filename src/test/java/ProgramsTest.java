@@ -17,7 +17,7 @@ public final class ProgramsTest {
     }
 
     private static void newObject() {
-        TurnThreads x = new TurnThreads();
+        Counted x = new Counted();
         Check.due("new: act(6, 0)", x.act(6, 0), -3);
         Check.due("new: begin(0, 1, 0)", x.begin(0, 1, 0), -1);
         Check.due("new: step(1)", x.step(1), -3);
@@ -34,7 +34,7 @@ public final class ProgramsTest {
     }
 
     private static void twelvePrograms() {
-        TurnThreads x = new TurnThreads();
+        Counted x = new Counted();
         for (int p = 0; p < 12; p++) {
             Check.due("program()", x.program(), p);
             Check.due("a new program has no acts", x.act(Check.LOG, 0), 1);
@@ -47,7 +47,7 @@ public final class ProgramsTest {
     }
 
     private static void bound(int kind, int least, int most) {
-        TurnThreads x = new TurnThreads();
+        Counted x = new Counted();
         x.program();
         Check.due("act(" + kind + ", below)", x.act(kind, least - 1), -2);
         Check.due("act(" + kind + ", above)", x.act(kind, most + 1), -2);
@@ -58,7 +58,7 @@ public final class ProgramsTest {
     }
 
     private static void free(int kind) {
-        TurnThreads x = new TurnThreads();
+        Counted x = new Counted();
         x.program();
         Check.due("act(" + kind + ", least of all)", x.act(kind, LEAST), 1);
         Check.due("act(" + kind + ", -1)", x.act(kind, -1), 2);
@@ -83,7 +83,7 @@ public final class ProgramsTest {
         free(Check.LEAVE);
         bound(Check.MASK, 0, 1);
         free(Check.MINE);
-        TurnThreads x = new TurnThreads();
+        Counted x = new Counted();
         x.program();
         int[] wrong = {-1, 17, LEAST, MOST};
         for (int kind : wrong) {
@@ -93,14 +93,14 @@ public final class ProgramsTest {
     }
 
     private static void orderOfRefusals() {
-        TurnThreads x = new TurnThreads();
+        Counted x = new Counted();
         Check.due("no program, a wrong kind", x.act(17, 0), -2);
         Check.due("no program, a wrong operand", x.act(Check.PUT, 8), -2);
         Check.due("no program", x.act(Check.PUT, 7), -3);
     }
 
     private static void twentyActs() {
-        TurnThreads x = new TurnThreads();
+        Counted x = new Counted();
         x.program();
         for (int i = 1; i <= 20; i++) {
             Check.due("act " + i, x.act(Check.ADD, i), i);
@@ -115,7 +115,7 @@ public final class ProgramsTest {
     }
 
     private static void beginRefuses() {
-        TurnThreads x = Check.with(Check.acts(Check.LOG, 0, Check.LOG, 0, Check.PUT, 0));
+        Counted x = Check.with(Check.acts(Check.LOG, 0, Check.LOG, 0, Check.PUT, 0));
         int[] none = {-1, 1, 11, 12, LEAST, MOST};
         for (int p : none) {
             Check.due("begin(" + p + ", 1, 0)", x.begin(p, 1, 0), -1);
@@ -137,7 +137,7 @@ public final class ProgramsTest {
     }
 
     private static void beginTakesTheirPlace() {
-        TurnThreads x = Check.with(
+        Counted x = Check.with(
                 Check.acts(Check.CATCH, 5, Check.MASK, 1, Check.FORK, 1, Check.LOG, 0, Check.PUT, 2, Check.TAKE, 3),
                 Check.acts(Check.MINE, 0, Check.ADD, -1, Check.THROW, 4, Check.TAKE, 5));
         Check.due("begin(0, 10, 7)", x.begin(0, 10, 7), 1);
@@ -167,7 +167,7 @@ public final class ProgramsTest {
 
     /** Handlers, masks, pending ones, queue and values of the run before are not those of the new one. */
     private static void beginInTheMidst() {
-        TurnThreads x = Check.with(
+        Counted x = Check.with(
                 Check.acts(Check.CATCH, 1, Check.CATCH, 2, Check.MASK, 1, Check.FORK, 1, Check.FORK, 1,
                         Check.YIELD, 0, Check.JUMP, 5),
                 Check.acts(Check.SET, 0, Check.THROW, 3, Check.THROW, 4, Check.YIELD, 0, Check.JUMP, 3));
@@ -189,7 +189,7 @@ public final class ProgramsTest {
     }
 
     private static void programsGrowDuringARun() {
-        TurnThreads x = Check.with(Check.acts(Check.FORK, 1, Check.YIELD, 0));
+        Counted x = Check.with(Check.acts(Check.FORK, 1, Check.YIELD, 0));
         x.begin(0, 2, 0);
         x.step(1);
         Check.due("FORK of a program that there is not", x.thread(0, 3), -1);

@@ -11,7 +11,7 @@ public final class QueriesTest {
     }
 
     private static void threadRefuses() {
-        TurnThreads x = Check.with(Check.acts(Check.YIELD, 0));
+        Counted x = Check.with(Check.acts(Check.YIELD, 0));
         Check.due("no run: thread(0, 0)", x.thread(0, 0), -1);
         Check.due("no run: thread(0, 10)", x.thread(0, 10), -1);
         x.begin(0, 1, 0);
@@ -27,7 +27,7 @@ public final class QueriesTest {
     }
 
     private static void threadAnswers() {
-        TurnThreads x = Check.with(
+        Counted x = Check.with(
                 Check.acts(Check.FORK, 1, Check.FORK, 2, Check.YIELD, 0, Check.THROW, 5, Check.THROW, 6,
                         Check.YIELD, 0, Check.DELAY, 30),
                 Check.acts(Check.RAISE, 9),
@@ -50,7 +50,7 @@ public final class QueriesTest {
     private static void negativeRegisters() {
         int[] values = {-1, -2, -3, -4, Integer.MIN_VALUE};
         for (int value : values) {
-            TurnThreads x = Check.with(Check.acts(Check.LOG, 0, Check.PUT, 0, Check.YIELD, 0));
+            Counted x = Check.with(Check.acts(Check.LOG, 0, Check.PUT, 0, Check.YIELD, 0));
             x.begin(0, 10, value);
             x.step(1);
             Check.due("its register", x.thread(0, 3), value);
@@ -60,7 +60,7 @@ public final class QueriesTest {
     }
 
     private static void traceRefuses() {
-        TurnThreads x = Check.with(Check.acts(Check.LOG, 0, Check.YIELD, 0));
+        Counted x = Check.with(Check.acts(Check.LOG, 0, Check.YIELD, 0));
         Check.due("no run: trace(-1, 0)", x.trace(-1, 0), -1);
         Check.due("no run: trace(0, 2)", x.trace(0, 2), -1);
         x.begin(0, 10, 3);
@@ -84,7 +84,7 @@ public final class QueriesTest {
     }
 
     private static void hundredRows() {
-        TurnThreads x = Check.with(Check.acts(Check.LOG, 0, Check.ADD, 1, Check.JUMP, 0));
+        Counted x = Check.with(Check.acts(Check.LOG, 0, Check.ADD, 1, Check.JUMP, 0));
         x.begin(0, 3, 1000);
         x.step(99);
         Check.due("99 rows", x.trace(-1, 0), 99);
@@ -101,7 +101,7 @@ public final class QueriesTest {
     }
 
     private static void askingChangesNothing() {
-        TurnThreads x = Check.with(Check.acts(Check.FORK, 0, Check.LOG, 0, Check.YIELD, 0));
+        Counted x = Check.with(Check.acts(Check.FORK, 0, Check.LOG, 0, Check.YIELD, 0));
         x.begin(0, 2, 6);
         x.step(5);
         for (int i = 0; i < 3; i++) {

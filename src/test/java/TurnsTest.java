@@ -22,7 +22,7 @@ public final class TurnsTest {
     }
 
     private static void stepRefuses() {
-        TurnThreads x = Check.with(Check.acts(Check.YIELD, 0, Check.JUMP, 0));
+        Counted x = Check.with(Check.acts(Check.YIELD, 0, Check.JUMP, 0));
         int[] wrong = {0, -1, 501, Integer.MIN_VALUE, Integer.MAX_VALUE};
         for (int n : wrong) {
             Check.due("no run: step(" + n + ")", x.step(n), -2);
@@ -39,7 +39,7 @@ public final class TurnsTest {
     }
 
     private static void threeThousandTurns() {
-        TurnThreads x = Check.with(Check.acts(Check.JUMP, 0));
+        Counted x = Check.with(Check.acts(Check.JUMP, 0));
         x.begin(0, 1, 0);
         for (int i = 0; i < 5; i++) {
             Check.due("step(500)", x.step(500), 500);
@@ -56,7 +56,7 @@ public final class TurnsTest {
     }
 
     private static void stepWhenOver() {
-        TurnThreads x = Check.with(Check.acts());
+        Counted x = Check.with(Check.acts());
         x.begin(0, 1, 0);
         Check.due("one turn ends it", x.step(500), 1);
         Check.due("none more", x.step(1), 0);
@@ -68,7 +68,7 @@ public final class TurnsTest {
 
     private static void quantumAndEnd() {
         for (int quantum = 1; quantum <= 10; quantum++) {
-            TurnThreads x = Check.with(Check.acts(Check.ADD, 1, Check.ADD, 1, Check.ADD, 1, Check.ADD, 1,
+            Counted x = Check.with(Check.acts(Check.ADD, 1, Check.ADD, 1, Check.ADD, 1, Check.ADD, 1,
                     Check.ADD, 1, Check.ADD, 1));
             x.begin(0, quantum, 0);
             x.step(1);
@@ -82,7 +82,7 @@ public final class TurnsTest {
     }
 
     private static void yieldEndsTheTurn() {
-        TurnThreads x = Check.with(
+        Counted x = Check.with(
                 Check.acts(Check.FORK, 1, Check.YIELD, 0, Check.ADD, 100),
                 Check.acts(Check.ADD, 1, Check.YIELD, 0, Check.ADD, 1));
         x.begin(0, 10, 0);
@@ -95,7 +95,7 @@ public final class TurnsTest {
     }
 
     private static void jumps() {
-        TurnThreads x = Check.with(Check.acts(Check.ZERO, 3, Check.ADD, -1, Check.JUMP, 0, Check.LOG, 0,
+        Counted x = Check.with(Check.acts(Check.ZERO, 3, Check.ADD, -1, Check.JUMP, 0, Check.LOG, 0,
                 Check.JUMP, 20, Check.LOG, 0));
         x.begin(0, 1, 2);
         x.step(1);
@@ -112,7 +112,7 @@ public final class TurnsTest {
     }
 
     private static void arithmetic() {
-        TurnThreads x = Check.with(Check.acts(Check.LOG, 0, Check.ADD, 1, Check.LOG, 0, Check.ADD, -1, Check.LOG, 0,
+        Counted x = Check.with(Check.acts(Check.LOG, 0, Check.ADD, 1, Check.LOG, 0, Check.ADD, -1, Check.LOG, 0,
                 Check.SET, -5, Check.LOG, 0, Check.MINE, 0, Check.LOG, 0));
         x.begin(0, 10, Integer.MAX_VALUE);
         x.step(1);
@@ -125,7 +125,7 @@ public final class TurnsTest {
     }
 
     private static void delays() {
-        TurnThreads x = Check.with(
+        Counted x = Check.with(
                 Check.acts(Check.FORK, 1, Check.DELAY, 0, Check.LOG, 0, Check.DELAY, 2, Check.DELAY, 100),
                 Check.acts(Check.YIELD, 0, Check.JUMP, 0));
         x.begin(0, 10, 7);
@@ -147,7 +147,7 @@ public final class TurnsTest {
     }
 
     private static void alone() {
-        TurnThreads x = Check.with(Check.acts(Check.DELAY, 100, Check.LOG, 0, Check.DELAY, 0, Check.TAKE, 3));
+        Counted x = Check.with(Check.acts(Check.DELAY, 100, Check.LOG, 0, Check.DELAY, 0, Check.TAKE, 3));
         x.begin(0, 10, 7);
         Check.due("three turns", x.step(3), 3);
         Check.due("clock", x.told(1), 102);
@@ -157,7 +157,7 @@ public final class TurnsTest {
     }
 
     private static void delayedByWhenThenNumbers() {
-        TurnThreads x = Check.with(
+        Counted x = Check.with(
                 Check.acts(Check.FORK, 1, Check.FORK, 2, Check.FORK, 3, Check.FORK, 4, Check.DELAY, 50),
                 Check.acts(Check.DELAY, 20), Check.acts(Check.DELAY, 9), Check.acts(Check.DELAY, 18),
                 Check.acts(Check.DELAY, 17));
@@ -191,7 +191,7 @@ public final class TurnsTest {
     }
 
     private static void clockLeaps() {
-        TurnThreads x = Check.with(
+        Counted x = Check.with(
                 Check.acts(Check.FORK, 1, Check.DELAY, 60, Check.LOG, 0),
                 Check.acts(Check.TAKE, 0));
         x.begin(0, 10, 0);
@@ -204,7 +204,7 @@ public final class TurnsTest {
 
     /** Several become ready in one turn, with different times: the earlier first, against the numbers. */
     private static void delayedComeBeforeTheTurn() {
-        TurnThreads x = Check.with(
+        Counted x = Check.with(
                 Check.acts(Check.FORK, 1, Check.FORK, 2, Check.FORK, 3, Check.YIELD, 0, Check.DELAY, 0,
                         Check.YIELD, 0, Check.JUMP, 5),
                 Check.acts(Check.DELAY, 2), Check.acts(Check.DELAY, 0), Check.acts(Check.DELAY, 0));
@@ -221,7 +221,7 @@ public final class TurnsTest {
     }
 
     private static void twentyFourThreads() {
-        TurnThreads x = Check.with(
+        Counted x = Check.with(
                 Check.acts(Check.FORK, 1, Check.LOG, 0, Check.JUMP, 0),
                 Check.acts());
         x.begin(0, 3, 500);
@@ -240,7 +240,7 @@ public final class TurnsTest {
     }
 
     private static void endKillsAll() {
-        TurnThreads x = Check.with(
+        Counted x = Check.with(
                 Check.acts(Check.FORK, 1, Check.FORK, 2, Check.FORK, 3, Check.FORK, 4, Check.FORK, 5, Check.YIELD, 0),
                 Check.acts(Check.TAKE, 0), Check.acts(Check.DELAY, 100), Check.acts(Check.YIELD, 0),
                 Check.acts(), Check.acts(Check.RAISE, 1));
@@ -259,7 +259,7 @@ public final class TurnsTest {
     }
 
     private static void toldRefuses() {
-        TurnThreads x = Check.with(Check.acts(Check.YIELD, 0));
+        Counted x = Check.with(Check.acts(Check.YIELD, 0));
         int[] wrong = {-1, 6, Integer.MIN_VALUE, Integer.MAX_VALUE};
         for (int what : wrong) {
             Check.due("no run: told(" + what + ")", x.told(what), -2);
@@ -276,7 +276,7 @@ public final class TurnsTest {
     }
 
     private static void queuedRefuses() {
-        TurnThreads x = Check.with(Check.acts(Check.YIELD, 0));
+        Counted x = Check.with(Check.acts(Check.YIELD, 0));
         Check.due("no run: queued(0)", x.queued(0), -1);
         x.begin(0, 1, 0);
         int[] none = {-1, 1, 24, Integer.MIN_VALUE, Integer.MAX_VALUE};
@@ -289,7 +289,7 @@ public final class TurnsTest {
     }
 
     private static void shares() {
-        TurnThreads x = Check.with(
+        Counted x = Check.with(
                 Check.acts(Check.FORK, 1, Check.YIELD, 0, Check.JUMP, 1),
                 Check.acts(Check.YIELD, 0, Check.DELAY, 100));
         Check.due("no run: share(0)", x.share(0), -1);
