@@ -334,6 +334,48 @@ public final class ActEdgesTest extends Edges {
         }
     }
 
+    /** Thread 1, masked, with two handlers and one pending, does an act with this register, and nothing else. */
+    private static void onlyItself(int register, String act, int... want) {
+        Counted x = begun(10, 1, "FORK 1, YIELD, THROW 8, YIELD, YIELD, JUMP 4",
+                "CATCH 18, CATCH 19, MASK 1, SET " + register + ", YIELD, " + act + ", YIELD");
+        x.fill(0, 50);
+        x.step(4);
+        dueThread(x, 1, want);
+        boolean logs = act.startsWith("LOG");
+        due(x.trace(-1, 0), logs ? 1 : 0);
+        boolean forks = act.startsWith("FORK");
+        due(x.told(3), forks ? 3 : 2);
+        due(x.told(4), forks ? 3 : 2);
+        dueThread(x, 0, Check.READY, 0, 4, 1, 0, 0, 0, 0, 2, -3);
+    }
+
+    @Says("Nothing is promised beyond the answers and state changes described above")
+    static void eachActChangesOnlyItsOwn() {
+        onlyItself(7, "PUT 1", Check.READY, 1, 7, 7, 2, 1, 1, 0, 2, -3);
+        onlyItself(7, "TAKE 0", Check.READY, 1, 7, 50, 2, 1, 1, 0, 2, -3);
+        onlyItself(7, "READ 0", Check.READY, 1, 7, 50, 2, 1, 1, 0, 2, -3);
+        onlyItself(7, "SET 3", Check.READY, 1, 7, 3, 2, 1, 1, 0, 2, -3);
+        onlyItself(7, "ADD 3", Check.READY, 1, 7, 10, 2, 1, 1, 0, 2, -3);
+        onlyItself(7, "FORK 0", Check.READY, 1, 7, 2, 2, 1, 1, 0, 2, -3);
+        onlyItself(7, "YIELD 3", Check.READY, 1, 6, 7, 2, 1, 1, 0, 2, -3);
+        onlyItself(7, "JUMP 6", Check.READY, 1, 7, 7, 2, 1, 1, 0, 2, -3);
+        onlyItself(7, "ZERO 9", Check.READY, 1, 7, 7, 2, 1, 1, 0, 2, -3);
+        onlyItself(0, "ZERO 6", Check.READY, 1, 7, 0, 2, 1, 1, 0, 2, -3);
+        onlyItself(7, "LOG 3", Check.READY, 1, 7, 7, 2, 1, 1, 0, 2, -3);
+        onlyItself(7, "THROW 3", Check.READY, 1, 7, 7, 2, 1, 1, 0, 2, -3);
+        onlyItself(7, "CATCH 3", Check.READY, 1, 7, 7, 3, 1, 1, 0, 2, -3);
+        onlyItself(7, "LEAVE 0", Check.READY, 1, 7, 7, 1, 1, 1, 0, 2, -3);
+        onlyItself(7, "MASK 1", Check.READY, 1, 7, 7, 2, 1, 1, 0, 2, -3);
+        onlyItself(7, "MINE 0", Check.READY, 1, 7, 1, 2, 1, 1, 0, 2, -3);
+    }
+
+    @Says("14 LEAVE: the innermost goes, if there is one")
+    static void leaveMasksNothing() {
+        Counted x = begun(10, 4, "CATCH 5, LEAVE 1, LEAVE 1, YIELD");
+        x.step(1);
+        dueThread(x, 0, Check.READY, 0, 4, 4, 0, 0, 0, 0, 1, -3);
+    }
+
     @Says("Behind the last ACT (a JUMP may go beyond, too) a THREAD is ENDED (as it comes to run).")
     static void aProgramWithoutActs() {
         Counted x = begun(1, 6, "");

@@ -147,6 +147,16 @@ public final class ExceptionEdgesTest extends Edges {
         dueThread(x, 1, Check.ENDED_BY_EXCEPTION, 1, -3, 2, 0, 0, 2, 3, 3, -3);
     }
 
+    @Says("11 RAISE a (1 to 9): that EXCEPTION in itself")
+    static void raisedByOneThatIsMasked() {
+        Counted x = begun(3, 5, "CATCH 9, MASK 1, RAISE 4, LOG");
+        x.step(1);
+        dueThread(x, 0, Check.READY, 0, 9, 4, 0, 1, 0, 0, 1, -3);
+        x = begun(3, 5, "MASK 1, RAISE 4, LOG");
+        due(x.step(9), 1);
+        dueThread(x, 0, Check.ENDED_BY_EXCEPTION, 0, -3, 5, 0, 1, 0, 4, 1, -3);
+    }
+
     @Says("to itself: as RAISE")
     static void thrownAtItself() {
         Counted x = begun(3, 0, "CATCH 9, MASK 1, THROW 4, LOG");

@@ -223,6 +223,18 @@ public final class PromiseEdgesTest extends Edges {
     }
 
     @Says("A RUN begins, instead of the one before")
+    static void nothingIsPendingInANewRun() {
+        Counted x = begun(10, 0, "MASK 1, CATCH 9, FORK 1, YIELD, YIELD, JUMP 4",
+                "SET 0, THROW 1, THROW 2, THROW 3, THROW 4, YIELD");
+        x.step(2);
+        dueThread(x, 0, Check.READY, 0, 4, 1, 1, 1, 4, 0, 1, -3);
+        x.begin(0, 10, 0);
+        dueThread(x, 0, Check.READY, 0, 0, 0, 0, 0, 0, 0, 0, -3);
+        x.step(1);
+        dueThread(x, 0, Check.READY, 0, 4, 1, 1, 1, 0, 0, 1, -3);
+    }
+
+    @Says("A RUN begins, instead of the one before")
     static void aRunAfterOneThatIsOver() {
         Counted x = begun(1, 3, "TAKE 0");
         due(x.step(500), 1);
@@ -365,6 +377,20 @@ public final class PromiseEdgesTest extends Edges {
         due(x.step(500), -4);
         dueTold(x, 0, 3000, 3000, 1, 1, 0);
         due(x.share(0), 1000);
+    }
+
+    @Says("-4 those done so far and n are above 3000.")
+    static void aRunThatIsOverIsRefusedToo() {
+        // A loop a turn: over in the 2600th.
+        Counted x = begun(3, -2600, "ADD 1, ZERO 20, JUMP 0");
+        for (int i = 0; i < 5; i++) {
+            due(x.step(500), 500);
+        }
+        due(x.step(500), 100);
+        dueTold(x, 1, 2600, 2600, 1, 0, 0);
+        due(x.step(400), 0);
+        due(x.step(401), -4);
+        due(x.step(1), 0);
     }
 
     @Says("-4 those done so far and n are above 3000.")

@@ -170,6 +170,35 @@ public final class TurnEdgesTest extends Edges {
     }
 
     @Says("if none is: all that wait get EXCEPTION 10, by numbers (each that does still)")
+    static void tenForTwentyFourThreads() {
+        Counted x = begun(10, 0, "FORK 0, CATCH 3, TAKE 1, YIELD, YIELD, JUMP 3");
+        due(x.step(24), 24);
+        dueBox(x, 1, -3, 0, 0, 24, 0);
+        due(x.step(1), 1);
+        due(x.told(5), 24);
+        due(x.told(4), 24);
+        for (int t = 0; t < 24; t++) {
+            due(x.thread(t, 0), Check.READY);
+            due(x.thread(t, 3), 10);
+            due(x.queued(t), (t + 1) % 24);
+        }
+    }
+
+    @Says("if none is: all that wait get EXCEPTION 10, by numbers (each that does still)")
+    static void noTenForThoseOfTheRunBefore() {
+        Counted x = begun(10, 0, "FORK 1, FORK 1, CATCH 4, TAKE 1, YIELD", "CATCH 1, TAKE 1");
+        x.step(3);
+        dueBox(x, 1, -3, 0, 0, 3, 0);
+        x.begin(1, 10, 0);
+        x.step(1);
+        dueBox(x, 1, -3, 0, 0, 1, 0);
+        due(x.step(1), 1);
+        due(x.told(5), 1);
+        dueQueue(x);
+        dueBox(x, 1, -3, 0, 0, 1, 0);
+    }
+
+    @Says("if none is: all that wait get EXCEPTION 10, by numbers (each that does still)")
     static void noTenWhileOneIsDelayed() {
         Counted x = begun(10, 0, "FORK 1, TAKE 1", "DELAY 100, SET 4, PUT 1");
         due(x.step(500), 4);
@@ -273,6 +302,19 @@ public final class TurnEdgesTest extends Edges {
         dueThread(x, 2, Check.KILLED, 2, -3, 1, 0, 0, 0, 0, 0, -3);
         dueTold(x, 1, 2, 2, 3, 0, 0);
         dueTrace(x);
+    }
+
+    @Says("When THREAD 0 is 5 or 6, all others that are not 5, 6 are KILLED, at once: it is OVER.")
+    static void twentyThreeAreKilled() {
+        Counted x = begun(10, 0, "FORK 1, ADD -23, ZERO 20, JUMP 0", "YIELD, JUMP 0");
+        due(x.step(500) < 500 ? 1 : 0, 1);
+        due(x.told(0), 1);
+        due(x.told(3), 24);
+        due(x.told(4), 0);
+        due(x.thread(0, 0), Check.ENDED);
+        for (int t = 1; t < 24; t++) {
+            due(x.thread(t, 0), Check.KILLED);
+        }
     }
 
     @Says("When THREAD 0 is 5 or 6, all others that are not 5, 6 are KILLED, at once: it is OVER.")
