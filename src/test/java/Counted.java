@@ -48,6 +48,15 @@ final class Counted {
         return text.append(')').toString();
     }
 
+    static int numberOf(String name) {
+        for (int call = 0; call < NAMES.length; call++) {
+            if (NAMES[call].equals(name)) {
+                return call;
+            }
+        }
+        throw new IllegalStateException("there is no call " + name);
+    }
+
     static String latestCall() {
         return latest.length == 0 ? "no call" : text(latest);
     }

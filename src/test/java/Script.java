@@ -23,7 +23,7 @@ final class Script {
         return of(programs).play();
     }
 
-    private static int kindOf(String name) {
+    static int kindOf(String name) {
         for (int kind = 0; kind < ACTS.length; kind++) {
             if (ACTS[kind].equals(name)) {
                 return kind;
